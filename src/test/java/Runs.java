@@ -1,11 +1,15 @@
 import java.lang.reflect.InvocationTargetException;
 import java.lang.reflect.Method;
+import java.util.HashMap;
+import java.util.Map;
 
 /**
  * Runs written as rows "call(arguments) -> answer" on one new desk. An answer is a number or, for a
  * call that throws, IAE, NSE, UOE or ISE: the first letters of the exception's name.
  */
 final class Runs {
+    private static final Map<String, Method> METHODS = methodsByName();
+
     private static int calls = 0;
     private static int wrong = 0;
 
@@ -39,7 +43,7 @@ final class Runs {
         String name = call.substring(0, open);
         String inside = call.substring(open + 1, call.length() - 1);
         String[] texts = inside.isEmpty() ? new String[0] : inside.split(", ");
-        Method method = methodOf(name);
+        Method method = METHODS.get(name);
         Class<?>[] types = method.getParameterTypes();
         Object[] values = new Object[texts.length];
         for (int i = 0; i < texts.length; i++) {
@@ -54,13 +58,12 @@ final class Runs {
         }
     }
 
-    private static Method methodOf(String name) {
-        for (Method method : RegistryDesk.class.getDeclaredMethods()) {
-            if (method.getName().equals(name)) {
-                return method;
-            }
+    private static Map<String, Method> methodsByName() {
+        Map<String, Method> found = new HashMap<>();
+        for (Method method : RegistryDesk.class.getMethods()) {
+            found.put(method.getName(), method);
         }
-        throw new AssertionError("no method " + name);
+        return found;
     }
 
     private static Object valueOf(Class<?> type, String text) {
