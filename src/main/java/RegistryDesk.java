@@ -707,7 +707,9 @@ public final class RegistryDesk {
         void dropOldest() {
             if (messageCount > 0) {
                 messageCount--;
-                System.arraycopy(messages, 1, messages, 0, messageCount);
+                for (int k = 0; k < messageCount; k++) {
+                    messages[k] = messages[k + 1];
+                }
             }
         }
     }
@@ -811,7 +813,9 @@ public final class RegistryDesk {
             int place = placeOf(number);
             if (place != NONE) {
                 size--;
-                System.arraycopy(numbers, place + 1, numbers, place, size - place);
+                for (int k = place; k < size; k++) {
+                    numbers[k] = numbers[k + 1];
+                }
             }
         }
     }

@@ -172,7 +172,8 @@ public final class PromisesTest {
             "count(1) -> 2", "create(0, 2, 1, 0, 0) -> 10", "balance(0) -> 0.0",
             "pass(4) -> 4", "delete(0, 0) -> 1", "deposit(1, 5.0) -> 5.0",
             "create(1, 0, 1, 0, 0) -> ISE", "pass(6) -> 10", "create(1, 0, 1, 0, 0) -> ISE",
-            "pass(2) -> 12", "create(1, 0, 1, 0, 0) -> 22", "domain(0, 0) -> 1");
+            "pass(2) -> 12", "create(1, 0, 1, 0, 0) -> 22", "domain(0, 0) -> 1",
+            "domain(0, 3) -> 0", "renew(1, 0, 1) -> 32", "pass(9) -> 21", "domain(0, 3) -> 0");
         Runs.check("7: nothing of the domain that bore the name before is left",
             "deposit(0, 50.0) -> 50.0", "contact(0) -> 0", "contact(0) -> 1", "host(0, -1, 0) -> 0",
             "create(0, 4, 1, 7, 0) -> 10", "change(0, 4, 0, 1, true) -> 2",
@@ -312,6 +313,11 @@ public final class PromisesTest {
             "create(0, 2, 1, 0, 0) -> 10", "price(2, 3.0) -> 0", "ask(1, 2, 0) -> 4",
             "answer(0, 2, true) -> 1", "pass(3) -> 3", "delete(1, 2) -> 1", "balance(1) -> 50.0",
             "balance(0) -> 49.0", "domain(2, 1) -> 20", "domain(2, 0) -> 1");
+        Runs.check("11: not while another domain alone uses a host under it",
+            "deposit(0, 50.0) -> 50.0", "contact(0) -> 0", "create(0, 2, 1, 0, 0) -> 10",
+            "create(0, 0, 1, 0, 0) -> 10", "host(0, 2, 1) -> 0", "change(0, 0, 1, 0, true) -> 1",
+            "delete(0, 2) -> ISE", "balance(0) -> 48.0", "change(0, 0, 1, 0, false) -> 0",
+            "delete(0, 2) -> 2", "balance(0) -> 49.0");
         Runs.check("11: not while another domain, in any state, uses a host under it",
             "deposit(0, 50.0) -> 50.0", "deposit(1, 50.0) -> 50.0", "contact(0) -> 0",
             "create(0, 2, 1, 0, 0) -> 10", "create(1, 3, 1, 0, 0) -> 10", "host(0, 2, 1) -> 0",
@@ -404,6 +410,11 @@ public final class PromisesTest {
             "domain(2, 0) -> 0", "count(4) -> 1", "answer(1, 2, true) -> UOE",
             "deposit(1, 0.125) -> 4.125", "answer(0, 2, true) -> 1", "balance(1) -> 0.0",
             "domain(2, 0) -> 1"));
+        Runs.check("14: all hosts under it go over, no others", joined(asked,
+            "create(0, 3, 1, 0, 0) -> 11", "host(0, 3, 6) -> 2", "host(0, 2, 7) -> 3",
+            "host(0, 2, 8) -> 4", "remove(0, 1, 3) -> 4", "answer(0, 2, true) -> 1",
+            "thing(0, 0) -> 1", "thing(1, 0) -> 0", "thing(2, 0) -> 0", "thing(3, 0) -> NSE",
+            "thing(4, 0) -> 1"));
         Runs.check("14: the one it is for gets the eighth less, not the owner",
             "deposit(0, 50.0) -> 50.0", "deposit(3, 100.0) -> 100.0", "contact(0) -> 0",
             "create(0, 2, 1, 0, 0) -> 10", "ask(3, 2, 0) -> 4", "answer(0, 2, true) -> 1",
@@ -483,6 +494,13 @@ public final class PromisesTest {
             "pass(1) -> 12", "domain(5, 5) -> 1", "domain(5, 11) -> 1", "domain(5, 12) -> -1",
             "count(3) -> 1", "thing(0, 3) -> NSE", "thing(2, 3) -> NSE", "thing(1, 3) -> 1",
             "message(0) -> 44", "count(4) -> 1");
+        Runs.check("15: out of the domains of the first and of the last name too",
+            "deposit(0, 9.0) -> 9.0", "contact(0) -> 0", "create(0, 0, 3, 0, 0) -> 30",
+            "create(0, 4, 1, 0, 0) -> 10", "create(0, 9, 3, 0, 0) -> 30", "pass(4) -> 4",
+            "delete(0, 4) -> 1", "host(0, 4, 1) -> 0", "change(0, 0, 1, 0, true) -> 1",
+            "change(0, 9, 1, 0, true) -> 1", "count(5) -> 2", "pass(8) -> 12", "domain(0, 5) -> 0",
+            "domain(9, 5) -> 0", "count(5) -> 0", "create(0, 4, 1, 0, 0) -> 22",
+            "host(0, 4, 1) -> 1", "count(3) -> 1");
     }
 
     private static void promise16Message() {
