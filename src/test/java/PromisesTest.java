@@ -190,7 +190,7 @@ public final class PromisesTest {
             "contact(3) -> 3", "host(0, -1, 0) -> 0", "host(1, -1, 0) -> 1", "host(2, -1, 0) -> 2",
             "host(3, -1, 0) -> 3", "create(0, 1, 1, 5, 0) -> 10",
         };
-        Runs.check("8: wrong inputs", joined(made,
+        Runs.check("8: wrong inputs", Runs.joined(made,
             "change(-1, 1, 0, 1, true) -> IAE", "change(4, 1, 0, 1, true) -> IAE",
             "change(0, -1, 0, 1, true) -> IAE", "change(0, 10, 0, 1, true) -> IAE",
             "change(0, 1, -1, 1, true) -> IAE", "change(0, 1, 2, 1, true) -> IAE",
@@ -199,7 +199,7 @@ public final class PromisesTest {
             "change(0, 1, 1, 2147483647, true) -> NSE", "change(1, 1, 1, 7, true) -> NSE",
             "change(1, 1, 0, 1, true) -> UOE", "change(1, 1, 0, 0, true) -> UOE",
             "domain(1, 4) -> 1", "domain(1, 5) -> 0"));
-        Runs.check("8: contacts in their order", joined(made,
+        Runs.check("8: contacts in their order", Runs.joined(made,
             "change(0, 1, 0, 0, false) -> ISE", "change(0, 1, 0, 1, false) -> ISE",
             "change(0, 1, 0, 0, true) -> ISE", "change(0, 1, 0, 2, true) -> 2",
             "change(0, 1, 0, 1, true) -> 3", "change(0, 1, 0, 3, true) -> ISE",
@@ -209,7 +209,7 @@ public final class PromisesTest {
             "domain(1, 10) -> -1", "change(0, 1, 0, 3, true) -> 3", "domain(1, 10) -> 3",
             "change(0, 1, 0, 1, false) -> 2", "change(0, 1, 0, 3, false) -> 1",
             "change(0, 1, 0, 2, false) -> ISE", "domain(1, 8) -> 2", "thing(100, 3) -> 0"));
-        Runs.check("8: hosts in their order, down to none", joined(made,
+        Runs.check("8: hosts in their order, down to none", Runs.joined(made,
             "change(0, 1, 1, 0, false) -> ISE", "change(0, 1, 1, 3, true) -> 1",
             "change(0, 1, 1, 3, true) -> ISE", "change(0, 1, 1, 0, true) -> 2",
             "change(0, 1, 1, 2, true) -> 3", "change(0, 1, 1, 1, true) -> ISE",
@@ -217,7 +217,7 @@ public final class PromisesTest {
             "change(0, 1, 1, 0, false) -> 2", "domain(1, 11) -> 3", "domain(1, 12) -> 2",
             "domain(1, 13) -> -1", "change(0, 1, 1, 3, false) -> 1",
             "change(0, 1, 1, 2, false) -> 0", "domain(1, 11) -> -1", "domain(1, 4) -> 1"));
-        Runs.check("8: lock 1 alone forbids it, a waiting transfer does not, a state does", joined(made,
+        Runs.check("8: lock 1 alone forbids it, a waiting transfer does not, a state does", Runs.joined(made,
             "lock(0, 1, 1) -> 0", "change(0, 1, 1, 0, true) -> UOE",
             "change(0, 1, 0, 0, false) -> UOE", "change(0, 1, 1, 4, true) -> NSE",
             "lock(0, 1, 30) -> 1", "change(0, 1, 1, 0, true) -> 1", "lock(0, 1, 0) -> 30",
@@ -386,7 +386,7 @@ public final class PromisesTest {
             "contact(0) -> 0", "create(0, 2, 1, 0, 0) -> 10", "host(0, 2, 5) -> 0",
             "host(0, -1, 0) -> 1", "renew(0, 2, 1) -> 20", "pass(1) -> 1", "ask(1, 2, 0) -> 5",
         };
-        Runs.check("14: who may answer", joined(asked,
+        Runs.check("14: who may answer", Runs.joined(asked,
             "answer(-1, 2, true) -> IAE", "answer(4, 2, false) -> IAE", "answer(0, -1, true) -> IAE",
             "answer(0, 10, true) -> IAE", "answer(0, 3, true) -> NSE", "answer(2, 2, false) -> UOE",
             "answer(2, 2, true) -> UOE", "answer(1, 2, true) -> UOE", "domain(2, 6) -> 1",
@@ -394,10 +394,10 @@ public final class PromisesTest {
             "count(4) -> 2", "answer(2, 2, false) -> NSE", "answer(1, 2, true) -> NSE",
             "answer(0, 2, true) -> NSE", "domain(2, 0) -> 0", "domain(2, 1) -> 20",
             "domain(2, 7) -> 3", "balance(1) -> 4.0"));
-        Runs.check("14: no", joined(asked,
+        Runs.check("14: no", Runs.joined(asked,
             "answer(0, 2, false) -> 0", "message(1) -> 32", "acknowledge(1) -> 0",
             "acknowledge(0) -> 0", "domain(2, 0) -> 0", "domain(2, 6) -> -1"));
-        Runs.check("14: yes", joined(asked,
+        Runs.check("14: yes", Runs.joined(asked,
             "lock(0, 2, 31) -> 0", "answer(0, 2, true) -> 1", "domain(2, 0) -> 1",
             "domain(2, 1) -> 30", "domain(2, 2) -> 31", "domain(2, 6) -> -1", "domain(2, 7) -> 4",
             "domain(2, 8) -> 0", "thing(0, 0) -> 1", "thing(1, 0) -> 0", "thing(100, 0) -> 0",
@@ -405,12 +405,12 @@ public final class PromisesTest {
             "message(1) -> 22", "acknowledge(1) -> 0", "acknowledge(0) -> 1", "message(0) -> 22",
             "answer(1, 2, true) -> NSE", "pass(3) -> 4", "domain(2, 7) -> 4", "pass(1) -> 5",
             "domain(2, 7) -> 0"));
-        Runs.check("14: it can't be paid and waits still", joined(asked,
+        Runs.check("14: it can't be paid and waits still", Runs.joined(asked,
             "price(2, 4.125) -> 0", "answer(0, 2, true) -> ISE", "domain(2, 6) -> 1",
             "domain(2, 0) -> 0", "count(4) -> 1", "answer(1, 2, true) -> UOE",
             "deposit(1, 0.125) -> 4.125", "answer(0, 2, true) -> 1", "balance(1) -> 0.0",
             "domain(2, 0) -> 1"));
-        Runs.check("14: all hosts under it go over, no others", joined(asked,
+        Runs.check("14: all hosts under it go over, no others", Runs.joined(asked,
             "create(0, 3, 1, 0, 0) -> 11", "host(0, 3, 6) -> 2", "host(0, 2, 7) -> 3",
             "host(0, 2, 8) -> 4", "remove(0, 1, 3) -> 4", "answer(0, 2, true) -> 1",
             "thing(0, 0) -> 1", "thing(1, 0) -> 0", "thing(2, 0) -> 0", "thing(3, 0) -> NSE",
@@ -653,12 +653,5 @@ public final class PromisesTest {
             "remove(2, 0, 2) -> 2", "count(2) -> 2", "remove(3, 1, 1) -> 1", "count(3) -> 1",
             "pass(1) -> 4", "delete(0, 0) -> 1", "count(1) -> 1", "count(5) -> 0", "pass(8) -> 12",
             "count(0) -> 12", "count(1) -> 0", "count(4) -> 3", "count(3) -> 1");
-    }
-
-    private static String[] joined(String[] first, String... then) {
-        String[] all = new String[first.length + then.length];
-        System.arraycopy(first, 0, all, 0, first.length);
-        System.arraycopy(then, 0, all, first.length, then.length);
-        return all;
     }
 }
