@@ -35,6 +35,8 @@ public final class FaceTest {
         due("constants", visibleFields(), setOf(CONSTANTS));
         due("constructors", visibleConstructors(), setOf("()"));
         due("state outside objects", changeableStatics(), setOf());
+        due("private methods with a public one's name", namesUsedTwice(), setOf());
+        due("classes inside that are seen", visibleClasses(), setOf());
         System.out.println(wrong == 0 ? "the face is the document's" : wrong + " faults");
         if (wrong != 0) {
             System.exit(1);
@@ -65,8 +67,38 @@ public final class FaceTest {
         for (Method method : RegistryDesk.class.getDeclaredMethods()) {
             if (!Modifier.isPrivate(method.getModifiers())) {
                 due(method + " is public", Modifier.isPublic(method.getModifiers()), true);
+                dueThrows(method);
                 found.add(method.getReturnType().getSimpleName() + " " + method.getName()
                         + inBrackets(method.getParameterTypes()));
+            }
+        }
+        return found;
+    }
+
+    /** Each method but count declares the four exceptions, in the document's order. */
+    private static void dueThrows(Method method) {
+        due("what " + method.getName() + " throws", inBrackets(method.getExceptionTypes()),
+            method.getName().equals("count") ? "()" : "(IllegalArgumentException, "
+            + "NoSuchElementException, UnsupportedOperationException, IllegalStateException)");
+    }
+
+    private static Set<String> namesUsedTwice() {
+        Set<String> open = new TreeSet<>();
+        Set<String> hidden = new TreeSet<>();
+        for (Method method : RegistryDesk.class.getDeclaredMethods()) {
+            (Modifier.isPrivate(method.getModifiers()) ? hidden : open).add(method.getName());
+        }
+        hidden.retainAll(open);
+        return hidden;
+    }
+
+    private static Set<String> visibleClasses() {
+        Set<String> found = new TreeSet<>();
+        for (Class<?> inside : RegistryDesk.class.getDeclaredClasses()) {
+            int modifiers = inside.getModifiers();
+            if (!Modifier.isStatic(modifiers) || Modifier.isPublic(modifiers)
+                    || Modifier.isProtected(modifiers)) {
+                found.add(inside.getName());
             }
         }
         return found;

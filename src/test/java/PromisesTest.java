@@ -217,7 +217,8 @@ public final class PromisesTest {
             "change(0, 1, 1, 0, false) -> 2", "domain(1, 11) -> 3", "domain(1, 12) -> 2",
             "domain(1, 13) -> -1", "change(0, 1, 1, 3, false) -> 1",
             "change(0, 1, 1, 2, false) -> 0", "domain(1, 11) -> -1", "domain(1, 4) -> 1"));
-        Runs.check("8: lock 1 alone forbids it, a waiting transfer does not, a state does", Runs.joined(made,
+        Runs.check("8: lock 1 alone forbids it, a waiting transfer does not, a state does",
+            Runs.joined(made,
             "lock(0, 1, 1) -> 0", "change(0, 1, 1, 0, true) -> UOE",
             "change(0, 1, 0, 0, false) -> UOE", "change(0, 1, 1, 4, true) -> NSE",
             "lock(0, 1, 30) -> 1", "change(0, 1, 1, 0, true) -> 1", "lock(0, 1, 0) -> 30",

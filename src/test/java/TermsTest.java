@@ -28,6 +28,7 @@ public final class TermsTest {
         graceOfAuto();
         lastOnePaid();
         locksOneByOne();
+        locksThatForbidNoDay();
         transferThatWaits();
         transferOnItsDay();
         expiry();
@@ -300,6 +301,25 @@ public final class TermsTest {
             "host(0, 2, 1) -> 1", "ask(1, 2, 5) -> " + (asks ? "4" : "UOE"),
             "answer(0, 2, false) -> " + (asks ? "0" : "NSE"), "lock(0, 2, " + locks + ") -> " + locks,
             "delete(0, 2) -> " + ((locks & 2) != 0 ? "UOE" : "2"));
+    }
+
+    private static void locksThatForbidNoDay() {
+        String[] asked = Runs.joined(FREE, "deposit(0, 9.0) -> 9.0", "deposit(1, 9.0) -> 9.0",
+            "ask(1, 2, 5) -> 4", "lock(0, 2, 31) -> 0");
+        Runs.check("no LOCK keeps a DAY from passing: TRANSFER", Runs.joined(asked, "pass(5) -> 5",
+            "domain(2, 0) -> 1", "domain(2, 2) -> 31", "domain(2, 7) -> 4"));
+        Runs.check("no LOCK keeps a DAY from passing: AUTO", Runs.joined(asked,
+            "answer(0, 2, false) -> 0", "pass(11) -> 11", "domain(2, 1) -> 20",
+            "balance(0) -> 8.0", "domain(2, 2) -> 31"));
+        Runs.check("no LOCK keeps a DAY from passing: REDEMPTION and LEAVING", Runs.joined(asked,
+            "answer(0, 2, false) -> 0", "pass(4) -> 4", "lock(0, 2, 29) -> 31",
+            "delete(0, 2) -> 1", "domain(2, 2) -> 29", "pass(6) -> 10", "domain(2, 3) -> 2",
+            "domain(2, 2) -> 29", "pass(2) -> 12", "domain(2, 3) -> NSE"));
+        Runs.check("a domain that is restored has its LOCKS and its CODE still", Runs.joined(asked,
+            "answer(0, 2, false) -> 0", "pass(4) -> 4", "lock(0, 2, 13) -> 31",
+            "delete(0, 2) -> 1", "pass(5) -> 9", "restore(0, 2) -> 10", "domain(2, 2) -> 13",
+            "renew(0, 2, 1) -> UOE", "lock(0, 2, 0) -> 13", "ask(1, 2, 4) -> UOE",
+            "ask(1, 2, 5) -> 13"));
     }
 
     private static void transferThatWaits() {
