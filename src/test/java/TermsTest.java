@@ -14,6 +14,7 @@ public final class TermsTest {
 
     public static void main(String[] args) {
         atFirst();
+        exact();
         atMostEightContacts();
         atMostEightHosts();
         fromHundredOn();
@@ -27,6 +28,7 @@ public final class TermsTest {
         graceOfTransfer();
         graceOfAuto();
         lastOnePaid();
+        renewThenAuto();
         locksOneByOne();
         locksThatForbidNoDay();
         transferThatWaits();
@@ -69,6 +71,34 @@ public final class TermsTest {
             "deposit(0, 9.0) -> 9.0", "contact(0) -> 0", "create(0, 0, 1, 0, 0) -> 10",
             "create(0, 1, 2, 0, 0) -> 20", "create(0, 2, 3, 0, 0) -> 30", "pass(1) -> 1",
             "create(0, 3, 1, 0, 0) -> 11");
+    }
+
+    /** The most and the least that can be paid, side by side in one sum. */
+    private static void exact() {
+        String title = "all that is worked out is exact: ";
+        String[] rich = {"contact(0) -> 0", "price(0, 0.125) -> 0"};
+        for (int thousands = 1; thousands < 401; thousands++) {
+            rich = Runs.joined(rich, "deposit(0, 1000.0) -> " + thousands + "000.0");
+        }
+        Runs.check(title + "a BALANCE", Runs.joined(rich, "create(0, 2, 1, 5, 0) -> 10",
+            "balance(0) -> 399999.890625", "deposit(0, 0.125) -> 400000.015625",
+            "delete(0, 2) -> 2", "balance(0) -> 400000.125"));
+        String[] spent = {"contact(0) -> 0", "price(0, 1000.0) -> 0"};
+        for (int thousands = 1; thousands < 4; thousands++) {
+            spent = Runs.joined(spent, "deposit(0, 1000.0) -> " + thousands + "000.0");
+        }
+        for (int i = 0; i < 150; i++) {
+            spent = Runs.joined(spent, "create(0, 2, 3, 5, 0) -> 30", "delete(0, 2) -> 2");
+        }
+        Runs.check(title + "what is PAID", Runs.joined(spent, "paid(0, 0) -> 393750.0",
+            "price(0, 0.125) -> 0", "create(0, 2, 1, 5, 0) -> 10", "paid(0, 0) -> 393750.109375",
+            "balance(0) -> 2999.890625"));
+        Runs.check(title + "what comes back", "contact(0) -> 0", "price(0, 999.875) -> 0",
+            "price(1, 0.125) -> 0", "deposit(0, 1000.0) -> 1000.0", "deposit(0, 1000.0) -> 2000.0",
+            "deposit(0, 1000.0) -> 3000.0", "create(0, 2, 3, 5, 0) -> 30",
+            "balance(0) -> 375.328125", "renew(0, 2, 1) -> 40", "balance(0) -> 375.21875",
+            "paid(0, 0) -> 2624.671875", "paid(0, 1) -> 0.109375", "delete(0, 2) -> 2",
+            "balance(0) -> 3000.0");
     }
 
     private static void atMostEightContacts() {
@@ -276,6 +306,21 @@ public final class TermsTest {
             "ask(1, 2, 5) -> 15", "answer(0, 2, true) -> 1", "renew(1, 2, 1) -> 50",
             "domain(2, 7) -> 6", "balance(1) -> 44.0", "delete(1, 2) -> 1", "balance(1) -> 50.0",
             "domain(2, 1) -> 50", "balance(0) -> 46.0"));
+    }
+
+    /** An EXPIRY that is before the DAY though it was renewed: AUTO comes in RENEW's grace. */
+    private static void renewThenAuto() {
+        String[] rows = Runs.joined(FREE, "deposit(0, 90.0) -> 90.0", "pass(15) -> 15",
+            "balance(0) -> 89.0", "delete(0, 2) -> 1", "balance(0) -> 90.0", "pass(5) -> 20",
+            "restore(0, 2) -> 10", "price(1, 2.0) -> 0", "renew(0, 2, 1) -> 20",
+            "domain(2, 7) -> 2", "balance(0) -> 87.0", "price(1, 5.0) -> 0", "pass(1) -> 21",
+            "domain(2, 1) -> 30", "domain(2, 7) -> 18", "balance(0) -> 82.0");
+        Runs.check("for each of CREATE, RENEW, TRANSFER and AUTO: both are on", Runs.joined(rows,
+            "pass(2) -> 23", "domain(2, 7) -> 18", "delete(0, 2) -> 1", "balance(0) -> 89.0",
+            "domain(2, 1) -> 20", "paid(0, 1) -> 8.0"));
+        Runs.check("for each of CREATE, RENEW, TRANSFER and AUTO: AUTO's is on", Runs.joined(rows,
+            "pass(3) -> 24", "domain(2, 7) -> 16", "delete(0, 2) -> 1", "balance(0) -> 87.0",
+            "domain(2, 1) -> 20"));
     }
 
     private static void locksOneByOne() {
