@@ -58,8 +58,9 @@ public final class ReadmeTest {
     private static void namesEachCall(String readme, String shown) {
         for (Method method : RegistryDesk.class.getDeclaredMethods()) {
             if (Modifier.isPublic(method.getModifiers())) {
-                due(shown.contains("desk." + method.getName() + "("), method + " is shown");
-                due(readme.contains("| `" + method.getName() + "("), method + " is in the table");
+                String name = method.getName();
+                due(shown.contains("desk." + name + "("), name + " is shown");
+                due(readme.contains("| `" + name + "("), name + " is in the table");
             }
         }
         for (String exception : LETTERS.keySet()) {

@@ -32,6 +32,7 @@ public final class TermsTest {
         locksOneByOne();
         locksThatForbidNoDay();
         transferThatWaits();
+        askedAgain();
         transferOnItsDay();
         expiry();
         redemptionAndLeaving();
@@ -377,6 +378,13 @@ public final class TermsTest {
             "domain(2, 6) -> 3", "domain(2, 0) -> 0", "pass(1) -> 12", "domain(2, 6) -> -1"));
     }
 
+    private static void askedAgain() {
+        Runs.check("one that is asked for again waits till a DAY of its own", Runs.joined(FREE,
+            "deposit(3, 9.0) -> 9.0", "ask(1, 2, 5) -> 4", "answer(1, 2, false) -> 0",
+            "pass(2) -> 2", "ask(3, 2, 5) -> 6", "pass(4) -> 6", "domain(2, 6) -> 3",
+            "domain(2, 0) -> 0", "pass(1) -> 7", "domain(2, 6) -> -1", "domain(2, 0) -> 3"));
+    }
+
     private static void transferOnItsDay() {
         String[] asked = Runs.joined(FREE, "deposit(1, 9.0) -> 9.0", "host(0, 2, 8) -> 0",
             "ask(1, 2, 5) -> 4", "pass(4) -> 4", "domain(2, 6) -> 1", "domain(2, 0) -> 0");
@@ -562,12 +570,15 @@ public final class TermsTest {
             rows = Runs.joined(rows, "domain(2, 1) -> 20", "delete(0, 2) -> 1",
                 "pass(5) -> " + (day + 5), "restore(0, 2) -> 10", "pass(1) -> " + (day + 6));
         }
+        rows = Runs.joined(rows, "delete(0, 2) -> 1", "restore(0, 2) -> 10", "ask(1, 2, 5) -> 63",
+            "pass(4) -> 63", "domain(2, 1) -> 50", "domain(2, 0) -> 0", "domain(2, 7) -> 16",
+            "paid(1, 1) -> 0.0", "pass(1) -> 64", "domain(2, 0) -> 1", "domain(2, 1) -> 70",
+            "domain(2, 7) -> 20", "paid(1, 2) -> 1.0", "paid(1, 1) -> 1.0", "balance(1) -> 7.0");
         Runs.check("Then: ACTIVE, and its EXPIRY is before the DAY", Runs.joined(rows,
-            "delete(0, 2) -> 1", "restore(0, 2) -> 10", "ask(1, 2, 5) -> 63", "pass(4) -> 63",
-            "domain(2, 1) -> 50", "domain(2, 0) -> 0", "domain(2, 7) -> 16", "paid(1, 1) -> 0.0",
-            "pass(1) -> 64", "domain(2, 0) -> 1", "domain(2, 1) -> 70", "domain(2, 7) -> 20",
-            "paid(1, 2) -> 1.0", "paid(1, 1) -> 1.0", "balance(1) -> 7.0", "delete(1, 2) -> 1",
-            "balance(1) -> 9.0", "domain(2, 1) -> 60"));
+            "delete(1, 2) -> 1", "balance(1) -> 9.0", "domain(2, 1) -> 60"));
+        Runs.check("Then: each grace has its own DAYS", Runs.joined(rows, "pass(3) -> 67",
+            "domain(2, 7) -> 20", "pass(1) -> 68", "domain(2, 7) -> 16", "delete(1, 2) -> 1",
+            "balance(1) -> 8.0", "domain(2, 1) -> 60"));
     }
 
     /** Registrar 0 gets twelve messages, of name 2 first and of name 3 last; 1 gets eleven. */
